@@ -497,6 +497,11 @@ public final class PageMender {
 
     /** Which powers of A are roots of the same polynomials: their exponents, doubled again and again. */
     private static final class Cosets {
+        /** The exponent 0 .. order - 1 of the same power; without a field there is only 0. */
+        static int reduced(int i, int order) {
+            return order < 1 ? 0 : Math.floorMod(i, order);
+        }
+
         static int doubled(int e, int order) {
             return 2 * e >= order ? 2 * e - order : 2 * e;
         }
@@ -504,7 +509,7 @@ public final class PageMender {
         /** How many exponents there are, and so the degree of THE MINIMAL POLYNOMIAL. */
         static int size(int i, int m) {
             int order = (1 << m) - 1;
-            int start = i % order;
+            int start = reduced(i, order);
             int e = doubled(start, order);
             int many = 1;
             while (e != start && many < m) {
@@ -516,7 +521,7 @@ public final class PageMender {
 
         static int least(int i, int m) {
             int order = (1 << m) - 1;
-            int e = i % order;
+            int e = reduced(i, order);
             int least = e;
             for (int step = 1; step < m; step++) {
                 e = doubled(e, order);
@@ -560,12 +565,8 @@ public final class PageMender {
         /** How many powers of A there are. */
         int order;
 
-        /** The smallest field, so that order is never 0 where something is divided by it. */
-        Field() {
-            become(LEAST_M);
-        }
-
         void become(int newM) {
+            // The tables are the dearest part of open(), and depend on M alone.
             if (newM == m) {
                 return;
             }
@@ -588,7 +589,7 @@ public final class PageMender {
         }
 
         int powerOfA(int i) {
-            return powers[Math.floorMod(i, order)];
+            return powers[Cosets.reduced(i, order)];
         }
 
         int product(int a, int b) {
@@ -609,7 +610,7 @@ public final class PageMender {
             int degree = Cosets.size(i, m);
             Arrays.fill(coefficients, 0);
             coefficients[0] = 1;
-            int e = i % order;
+            int e = Cosets.reduced(i, order);
             for (int roots = 0; roots < degree; roots++) {
                 multiplyByRoot(powers[e], roots);
                 e = Cosets.doubled(e, order);
@@ -754,7 +755,7 @@ public final class PageMender {
         /** At a root of THE GENERATOR the rest has the value of the whole polynomial. */
         int restAt(int i) {
             int order = field.order;
-            int step = i % order;
+            int step = Cosets.reduced(i, order);
             int sum = 0;
             int e = 0;
             for (int p = 0; p < r; p++) {
@@ -887,7 +888,7 @@ public final class PageMender {
         private boolean findWrong(int many) {
             for (int k = 1; k <= many; k++) {
                 logs[k] = locator[k] == 0 ? NONE
-                    : Math.floorMod(field.logs[locator[k]] - k * (code.n - 1), field.order);
+                    : Cosets.reduced(field.logs[locator[k]] - k * (code.n - 1), field.order);
             }
             int found = 0;
             for (int bit = 0; bit < code.n && found < many; bit++) {

@@ -104,8 +104,8 @@ public final class PromisesTest {
     private static void openCodes() {
         int[][] codes = {
             {4, 1, 1, 4}, {5, 1, 1, 5}, {5, 1, 3, 5}, {5, 2, 2, 10}, {5, 3, 2, 15}, {5, 5, 1, 20}, {6, 1, 7, 6},
-            {6, 3, 5, 18}, {6, 6, 3, 33}, {6, 7, 3, 39}, {7, 8, 8, 56}, {8, 8, 23, 64}, {9, 8, 54, 72}, {10, 8, 117, 80},
-            {11, 8, 244, 88}, {12, 8, 256, 96}, {13, 8, 256, 104}, {13, 1, 256, 13}, {13, 1, 1, 13}
+            {6, 3, 5, 18}, {6, 6, 3, 33}, {6, 7, 3, 39}, {7, 8, 8, 56}, {8, 8, 23, 64}, {9, 8, 54, 72},
+            {10, 8, 117, 80}, {11, 8, 244, 88}, {12, 8, 256, 96}, {13, 8, 256, 104}, {13, 1, 256, 13}, {13, 1, 1, 13}
         };
         for (int[] c : codes) {
             PageMender x = new PageMender();
@@ -142,8 +142,9 @@ public final class PromisesTest {
 
     private static void openRenews() {
         PageMender x = written();
+        due("2 RIGHT before", x.read(0), 0);
         flipAll(x, 0, 4);
-        x.read(0);
+        due("2 MENDED before", x.read(0), 1);
         x.stick(1, 3, 0);
         x.mark(1, 5, true);
         x.erase(1);
@@ -293,6 +294,10 @@ public final class PromisesTest {
         due("9 of the least", x.get(0), 0);
         due("9 the last byte", x.put(6, 129), 0);
         due("9 its neighbour stays", x.get(5), 0);
+        due("9 too much for a byte", x.put(3, -257), 0);
+        due("9 its lowest eight bits", x.get(3), 255);
+        due("9 nothing runs over to the one before", x.get(2), 0);
+        due("9 nor to the one behind", x.get(4), 0);
         for (int i : new int[] {-1, 7, MIN, MAX}) {
             due("9 put(" + i + ")", x.put(i, 1), BAD);
         }
