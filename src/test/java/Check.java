@@ -1,3 +1,5 @@
+import java.util.List;
+
 /** Counts the answers that are not as due; each test makes one and ends with it. */
 final class Check {
     private static final int MOST_PRINTED = 50;
@@ -21,6 +23,21 @@ final class Check {
 
     void holds(String what, boolean held) {
         due(what, held ? 1 : 0, 1);
+    }
+
+    /** The first line that is another one is told. */
+    void same(String what, List<String> got, List<String> want) {
+        int at = 0;
+        while (at < got.size() && at < want.size() && got.get(at).equals(want.get(at))) {
+            at++;
+        }
+        boolean all = got.size() == want.size() && at == got.size();
+        String first = all ? "" : ": " + lineAt(got, at) + ", due is " + lineAt(want, at);
+        holds(what + first, all);
+    }
+
+    private static String lineAt(List<String> lines, int at) {
+        return at < lines.size() ? lines.get(at) : "nothing more";
     }
 
     void end() {

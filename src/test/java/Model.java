@@ -11,6 +11,7 @@ final class Model {
     static final int CLOSED = -3;
     static final int LOST = -4;
     private static final int[] F = {11, 19, 37, 67, 137, 285, 529, 1033, 2053, 4179, 8219};
+    private static final int[][][] GENERATORS = new int[14][9][];
 
     private boolean open;
     int m;
@@ -79,7 +80,15 @@ final class Model {
         }
     }
 
+    /** Kept once it is found, for the search is slow. */
     static int[] generatorOf(int m, int t) {
+        if (GENERATORS[m][t] == null) {
+            GENERATORS[m][t] = findGenerator(m, t);
+        }
+        return GENERATORS[m][t];
+    }
+
+    private static int[] findGenerator(int m, int t) {
         int[] g = {1};
         for (int i = 1; i <= 2 * t; i++) {
             if (valueAt(g, powerOf(i, m), m) != 0) {
