@@ -15,6 +15,7 @@ public final class BufferEdgesTest {
         fillEnds();
         get();
         tailEnds();
+        tailOfEveryLength();
         tailFollowsTheBuffer();
         CHECK.end();
     }
@@ -148,6 +149,33 @@ public final class BufferEdgesTest {
             for (int no : new int[] {-1, r, r + 1, MIN, MAX}) {
                 CHECK.due("tail(" + no + ")" + of, x.tail(no), BAD);
             }
+        }
+    }
+
+    /** 12: "the TAIL that is RIGHT": of every R that there is, beside the model's division bit by bit. */
+    private static void tailOfEveryLength() {
+        for (int m = 4; m <= 13; m++) {
+            for (int t = 1; t <= 8; t++) {
+                for (int d : new int[] {1, 2, 9, 20}) {
+                    sameTails(m, t, d);
+                }
+            }
+        }
+    }
+
+    private static void sameTails(int m, int t, int d) {
+        Model y = new Model();
+        int r = y.open(m, t, d);
+        PageMender x = new PageMender();
+        CHECK.due("open(" + m + ", " + t + ", " + d + ")", x.open(m, t, d), r);
+        int[] data = new int[d];
+        for (int i = 0; r > 0 && i < d; i++) {
+            data[i] = 0xB7 * (i + 1) & 255;
+            x.put(i, data[i]);
+        }
+        int[] word = r > 0 ? y.wordOf(data) : new int[0];
+        for (int i = 0; i < r; i++) {
+            CHECK.due("tail(" + i + ") of (" + m + ", " + t + ", " + d + ")", x.tail(i), word[8 * d + i]);
         }
     }
 

@@ -13,6 +13,7 @@ public final class FieldEdgesTest {
         becomesTheCode();
         allAsAtFirst();
         longerAndShorter();
+        tailsAfterOtherCodes();
         refusedOpen();
         times();
         timesRoundTheEnd();
@@ -90,6 +91,27 @@ public final class FieldEdgesTest {
             for (int what = 0; what < 20; what++) {
                 CHECK.due("the largest again, told(" + page + ", " + what + ")", x.told(page, what), 0);
             }
+        }
+    }
+
+    /** Nothing of a code with a longer TAIL, or a shorter one, is left in what words are completed by. */
+    private static void tailsAfterOtherCodes() {
+        int[][] codes = {{13, 8, 256}, {8, 8, 23}, {4, 1, 1}, {13, 5, 256}, {13, 8, 256}, {11, 6, 100}};
+        PageMender used = new PageMender();
+        for (int[] c : codes) {
+            PageMender fresh = opened(c[0], c[1], c[2]);
+            used.open(c[0], c[1], c[2]);
+            for (PageMender x : new PageMender[] {fresh, used}) {
+                x.fill(0, 0x0123456789ABCDEFL);
+                x.write(0);
+                x.flip(0, 3);
+            }
+            String of = " of (" + c[0] + ", " + c[1] + ", " + c[2] + ")";
+            for (int i = 0; i < fresh.about(3); i++) {
+                CHECK.due("tail(" + i + ")" + of, used.tail(i), fresh.tail(i));
+            }
+            CHECK.due("read" + of, used.read(0), 1);
+            CHECK.due("turned" + of, used.turned(0), 3);
         }
     }
 

@@ -10,7 +10,7 @@ public final class TermsTest {
     private static final int[] F = {11, 19, 37, 67, 137, 285, 529, 1033, 2053, 4179, 8219};
     /** Codes whose words have just 2^M - 1 bits, and some whose words have fewer. */
     private static final int[][] FULL = {{5, 3, 2}, {6, 7, 3}, {7, 1, 15}, {9, 7, 56}, {11, 5, 249}};
-    private static final int[][] SHORTER = {{4, 1, 1}, {5, 2, 2}, {5, 5, 1}, {6, 8, 2}, {8, 8, 23}, {10, 4, 9}, {13, 8, 256}};
+    private static final int[][] SHORTER = {{4, 1, 1}, {5, 2, 2}, {5, 5, 1}, {6, 8, 2}, {8, 8, 23}, {10, 4, 9}, {13, 5, 3}, {13, 8, 256}};
     private static final Check CHECK = new Check("TermsTest");
 
     public static void main(String[] args) {
@@ -30,6 +30,8 @@ public final class TermsTest {
         apartByNoneAndAll();
         nearEnough();
         noWordIsLost();
+        wrongBeyondTheWord();
+        everyThreeBits();
         oneWordAtMost();
         syndromesOfTurnedBits();
         sixteenPages();
@@ -375,6 +377,53 @@ public final class TermsTest {
             CHECK.due("both marked", x.read(0), 2);
             x.mark(0, third, true);
             CHECK.due("all three marked", x.read(0), LOST);
+        }
+    }
+
+    /**
+     * "A WORD has N .. bits": two wrong bits of (4, 1, 1) look like one at x^e; x^12, x^13 and x^14
+     * are none of its 12 bits, so nothing can be turned there, and the word is LOST.
+     */
+    private static void wrongBeyondTheWord() {
+        Set<Integer> beyond = new HashSet<>();
+        for (int a = 0; a < 12; a++) {
+            for (int b = 0; b < a; b++) {
+                PageMender x = opened(4, 1, 1);
+                x.flip(0, a);
+                x.flip(0, b);
+                int e = x.log(x.syndrome(0, 1));
+                String what = "bits " + a + " and " + b + ", which look like x^" + e;
+                CHECK.due(what, x.read(0), e < 12 ? 1 : LOST);
+                CHECK.due(what + ", turned", x.turned(0), e < 12 ? 11 - e : NONE);
+                if (e >= 12) {
+                    beyond.add(e);
+                }
+            }
+        }
+        CHECK.due("all three were met", beyond.size(), 3);
+    }
+
+    /** One bit more than T of a word, every choice of them: LOST, or near another RIGHT word. */
+    private static void everyThreeBits() {
+        Model y = new Model();
+        int n = 8 + y.open(5, 2, 1);
+        for (int a = 0; a < n; a++) {
+            for (int b = 0; b < a; b++) {
+                for (int c = 0; c < b; c++) {
+                    PageMender x = opened(5, 2, 1);
+                    y.open(5, 2, 1);
+                    for (int k : new int[] {a, b, c}) {
+                        x.flip(0, k);
+                        y.flip(0, k);
+                    }
+                    String what = "bits " + a + ", " + b + ", " + c;
+                    CHECK.due(what, x.read(0), y.read(0));
+                    CHECK.due(what + ": the buffer", x.get(0), y.get(0));
+                    for (int i = 0; i < 3; i++) {
+                        CHECK.due(what + ": turned(" + i + ")", x.turned(i), y.turned(i));
+                    }
+                }
+            }
         }
     }
 
